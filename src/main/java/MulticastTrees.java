@@ -262,7 +262,7 @@ public final class MulticastTrees {
             return next[a][b];
         }
 
-        /** The k-th router, the farthest from the target coming first: one comes after all whose way leads through it. */
+        /** The k-th router from the farthest on, so that each comes after all whose way to the target leads through it. */
         int fromFarthest(int target, int k) {
             return farFirst[target][k];
         }

@@ -262,7 +262,7 @@ public final class MulticastTrees {
             return next[a][b];
         }
 
-        /** The k-th router from the farthest on, so that each comes after all whose way to the target leads through it. */
+        /** The k-th router from the farthest on: each comes after all whose way to the target leads through it. */
         int fromFarthest(int target, int k) {
             return farFirst[target][k];
         }

@@ -2,12 +2,18 @@
 final class Due {
     private int wrong = 0;
     private int looked = 0;
+    private String sentence = "";
+
+    /** The answers from here on are due by this sentence of the document: its promise or term, and its words. */
+    void by(String place, String words) {
+        sentence = place + ", \"" + words + "\": ";
+    }
 
     void is(String call, long got, long want) {
         looked++;
         if (got != want) {
             wrong++;
-            System.out.println(call + " answered " + got + ", due is " + want);
+            System.out.println(sentence + call + " answered " + got + ", due is " + want);
         }
     }
 

@@ -1,9 +1,11 @@
-/** Promises 18 to 21: publish, emit, requests, have; and the messages 8 and 9 of promise 16. */
+/**
+ * Promises 18 to 21: publish, emit, requests, have; and the messages 8 and 9 of promise 16. The boundary cases are
+ * in FilesEdgesTest.
+ */
 public final class FilesTest {
     public static void main(String[] args) {
         Due due = new Due();
         publishes(due);
-        publishWrong(due);
         emits(due);
         emitIsAPacket(due);
         emitRefused(due);
@@ -13,20 +15,11 @@ public final class FilesTest {
         waits(due);
         waitsGoOn(due);
         partTakers(due);
-        haveWrong(due);
         due.end();
     }
 
-    /** All routers linked with router 0, the meeting point; a member of group 0 on each of the LANs. */
-    private static MulticastTrees star(int... lans) {
-        MulticastTrees x = new MulticastTrees(0);
-        for (int n = 1; n < 6; n++) x.link(0, n, 1);
-        for (int l : lans) x.join(l, 0, 0);
-        return x;
-    }
-
     private static void publishes(Due due) {
-        MulticastTrees x = star(1);
+        MulticastTrees x = Nets.star(1);
         due.is("file 0", x.publish(0, 0, 1), 0);
         due.is("file 1", x.publish(0, 0, 16), 1);
         due.is("file 2", x.publish(5, 2, 3), 2);
@@ -39,21 +32,8 @@ public final class FilesTest {
         due.is("file 3 at 1", x.have(3, 1), 1);
     }
 
-    private static void publishWrong(Due due) {
-        MulticastTrees x = star();
-        for (int wrong : new int[] {-1, 6, Integer.MIN_VALUE, Integer.MAX_VALUE}) {
-            due.is("publish of " + wrong, x.publish(wrong, 0, 1), -1);
-            due.is("publish to " + wrong, x.publish(0, wrong, 1), -1);
-        }
-        for (int wrong : new int[] {0, -1, 17, Integer.MIN_VALUE, Integer.MAX_VALUE}) {
-            due.is("publish with blocks " + wrong, x.publish(0, 0, wrong), -1);
-        }
-        due.is("publish to 3", x.publish(0, 3, 1), -1);
-        due.is("no file was made", x.publish(0, 0, 1), 0);
-    }
-
     private static void emits(Due due) {
-        MulticastTrees x = star(1, 2);
+        MulticastTrees x = Nets.star(1, 2);
         x.publish(0, 0, 16);
         for (int b = 0; b < 16; b++) due.is("block " + b, x.emit(0), b);
         due.is("the end", x.emit(0), 16);
@@ -65,7 +45,7 @@ public final class FilesTest {
     }
 
     private static void emitIsAPacket(Due due) {
-        MulticastTrees x = star(1, 2);
+        MulticastTrees x = Nets.star(1, 2);
         x.publish(3, 0, 2);
         x.lose(2, 1);
         x.emit(0);
@@ -81,13 +61,9 @@ public final class FilesTest {
     }
 
     private static void emitRefused(Due due) {
-        MulticastTrees x = star(1);
+        MulticastTrees x = Nets.star(1);
         x.publish(0, 0, 2);
         x.publish(1, 1, 1);
-        for (int wrong : new int[] {-1, 2, 4, Integer.MIN_VALUE, Integer.MAX_VALUE}) {
-            due.is("emit of " + wrong, x.emit(wrong), -1);
-            due.is("requests of " + wrong, x.requests(wrong), -1);
-        }
         x.lose(1, 1);
         x.emit(0);
         x.emit(0);
@@ -103,7 +79,7 @@ public final class FilesTest {
     }
 
     private static void onlyMembersKeep(Due due) {
-        MulticastTrees x = star(1, 2);
+        MulticastTrees x = Nets.star(1, 2);
         x.publish(0, 0, 3);
         x.leave(2, 0, 0, false);
         x.emit(0);
@@ -119,7 +95,7 @@ public final class FilesTest {
     }
 
     private static void horizons(Due due) {
-        MulticastTrees x = star(1);
+        MulticastTrees x = Nets.star(1);
         x.publish(0, 0, 3);
         due.is("nothing is known", x.requests(0), 0);
         x.lose(1, 1);
@@ -148,7 +124,7 @@ public final class FilesTest {
     }
 
     private static void repairsComeFirst(Due due) {
-        MulticastTrees x = star(1, 2);
+        MulticastTrees x = Nets.star(1, 2);
         x.publish(0, 0, 6);
         x.lose(1, 2);
         x.emit(0);
@@ -174,7 +150,7 @@ public final class FilesTest {
 
     /** The first waits that are drawn are 6, 6, 1, 3, 3, 3, 2, 3. */
     private static void waits(Due due) {
-        MulticastTrees x = star(1, 2, 3, 4);
+        MulticastTrees x = Nets.star(1, 2, 3, 4);
         x.publish(0, 0, 4);
         x.lose(1, 1);
         x.lose(2, 2);
@@ -192,7 +168,7 @@ public final class FilesTest {
     }
 
     private static void waitsGoOn(Due due) {
-        MulticastTrees x = star(1, 2);
+        MulticastTrees x = Nets.star(1, 2);
         x.publish(0, 0, 3);
         x.publish(0, 0, 3);
         x.lose(1, 1);
@@ -214,7 +190,7 @@ public final class FilesTest {
     }
 
     private static void partTakers(Due due) {
-        MulticastTrees x = star(0, 1, 2);
+        MulticastTrees x = Nets.star(0, 1, 2);
         x.publish(0, 0, 2);
         x.lose(0, 1);
         x.lose(1, 1);
@@ -233,17 +209,5 @@ public final class FilesTest {
         due.is("nobody takes part", x.requests(0), 0);
         x.link(1, 2, 1);
         due.is("connected, but not with the source", x.requests(0), 0);
-    }
-
-    private static void haveWrong(Due due) {
-        MulticastTrees x = star(1);
-        x.publish(0, 0, 2);
-        for (int wrong : new int[] {-1, 1, 4, Integer.MIN_VALUE, Integer.MAX_VALUE}) {
-            due.is("have of file " + wrong, x.have(wrong, 1), -1);
-        }
-        for (int wrong : new int[] {-1, 6, Integer.MIN_VALUE, Integer.MAX_VALUE}) {
-            due.is("have of LAN " + wrong, x.have(0, wrong), -1);
-        }
-        due.is("have", x.have(0, 5), 0);
     }
 }

@@ -1,17 +1,16 @@
-/** Promises 5 to 8 and 14: join, leave, marked, pass, shared; and the messages 0 and 1 of promise 16. */
+/**
+ * Promises 5 to 8 and 14: join, leave, marked, pass, shared; and the messages 0 and 1 of promise 16. The boundary
+ * cases are in MembersEdgesTest and TreesEdgesTest.
+ */
 public final class MembersTest {
     public static void main(String[] args) {
         Due due = new Due();
         joinAnswers(due);
-        joinWrong(due);
         leaveTells(due);
         leaveSilently(due);
         leaveAtTheEnd(due);
-        leaveWrong(due);
-        markedWrong(due);
         reports(due);
         reporterChanges(due);
-        passWrong(due);
         sharedJoins(due);
         sharedMoves(due);
         sharedTicks(due);
@@ -34,18 +33,6 @@ public final class MembersTest {
         due.yes("and comes back", x.join(5, 1, 2));
         due.is("it reports", x.marked(5, 2), 12);
         due.is("for its group alone", x.marked(5, 1), 10);
-    }
-
-    private static void joinWrong(Due due) {
-        MulticastTrees x = new MulticastTrees(0);
-        for (int wrong : new int[] {-1, 6, Integer.MIN_VALUE, Integer.MAX_VALUE}) {
-            due.no("join on LAN " + wrong, x.join(wrong, 0, 0));
-            due.no("join of host " + wrong, x.join(0, wrong, 0));
-            due.no("join to group " + wrong, x.join(0, 0, wrong));
-        }
-        due.no("host 4", x.join(0, 4, 0));
-        due.no("group 3", x.join(0, 0, 3));
-        due.is("nothing was marked", x.marked(0, 0), 0);
     }
 
     private static void leaveTells(Due due) {
@@ -105,34 +92,6 @@ public final class MembersTest {
         due.is("down to two", y.marked(0, 0), 2);
     }
 
-    private static void leaveWrong(Due due) {
-        MulticastTrees x = new MulticastTrees(0);
-        x.join(0, 0, 0);
-        for (int wrong : new int[] {-1, 6, Integer.MIN_VALUE, Integer.MAX_VALUE}) {
-            due.no("leave on LAN " + wrong, x.leave(wrong, 0, 0, true));
-            due.no("leave of host " + wrong, x.leave(0, wrong, 0, true));
-            due.no("leave of group " + wrong, x.leave(0, 0, wrong, true));
-        }
-        due.no("host 4", x.leave(0, 4, 0, true));
-        due.no("group 3", x.leave(0, 0, 3, true));
-        due.no("no member", x.leave(0, 1, 0, true));
-        due.no("member of another group", x.leave(0, 0, 1, true));
-        due.no("member on another LAN", x.leave(1, 0, 0, true));
-        due.is("nothing changed", x.marked(0, 0), 12);
-        due.yes("the member", x.leave(0, 0, 0, false));
-        due.no("no longer", x.leave(0, 0, 0, true));
-        due.is("a refused leave tells nothing", x.marked(0, 0), 12);
-    }
-
-    private static void markedWrong(Due due) {
-        MulticastTrees x = new MulticastTrees(0);
-        for (int wrong : new int[] {-1, 6, Integer.MIN_VALUE, Integer.MAX_VALUE}) {
-            due.is("marked of LAN " + wrong, x.marked(wrong, 0), -1);
-            due.is("marked for group " + wrong, x.marked(0, wrong), -1);
-        }
-        due.is("marked for group 3", x.marked(0, 3), -1);
-    }
-
     private static void reports(Due due) {
         MulticastTrees x = new MulticastTrees(0);
         x.pass(3);
@@ -166,20 +125,6 @@ public final class MembersTest {
         due.is("2 reports", x.marked(1, 0), 12);
     }
 
-    private static void passWrong(Due due) {
-        MulticastTrees x = new MulticastTrees(0);
-        x.join(0, 0, 0);
-        for (int wrong : new int[] {0, -1, 11, 12, Integer.MIN_VALUE, Integer.MAX_VALUE}) {
-            due.no("pass " + wrong, x.pass(wrong));
-        }
-        due.is("no tick", x.marked(0, 0), 12);
-        x.leave(0, 0, 0, false);
-        due.yes("pass 1", x.pass(1));
-        due.is("one tick", x.marked(0, 0), 11);
-        due.yes("pass 10", x.pass(10));
-        due.is("ten more", x.marked(0, 0), 1);
-    }
-
     private static void sharedJoins(Due due) {
         MulticastTrees x = new MulticastTrees(2);
         x.link(2, 1, 1);
@@ -208,11 +153,6 @@ public final class MembersTest {
         due.is("3 at 5 when connected", x.shared(3, 1), 5);
         due.is("5 at 0 again, for 3", x.shared(5, 1), 0);
         due.is("placed then", x.messages(0), 5);
-        for (int wrong : new int[] {-1, 6, Integer.MIN_VALUE, Integer.MAX_VALUE}) {
-            due.is("shared of " + wrong, x.shared(wrong, 1), -1);
-            due.is("shared for group " + wrong, x.shared(0, wrong), -1);
-        }
-        due.is("shared for group 3", x.shared(0, 3), -1);
     }
 
     private static void sharedMoves(Due due) {

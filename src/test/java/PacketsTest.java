@@ -1,4 +1,7 @@
-/** Promises 9 to 13 and 15 to 17: send, crossings, drops, reached, heard, entry, messages, lose. */
+/**
+ * Promises 9 to 13 and 15 to 17: send, crossings, drops, reached, heard, entry, messages, lose. The boundary cases
+ * are in PacketsEdgesTest and TreesEdgesTest.
+ */
 public final class PacketsTest {
     public static void main(String[] args) {
         Due due = new Due();
@@ -6,7 +9,6 @@ public final class PacketsTest {
         registersNeedAWay(due);
         keepalives(due);
         fiveStreams(due);
-        sendWrong(due);
         sharedThenSource(due);
         keepaliveOfCarriers(due);
         ownLan(due);
@@ -20,16 +22,7 @@ public final class PacketsTest {
         sourceIsCut(due);
         notBackWhereItCameFrom(due);
         losses(due);
-        loseWrong(due);
-        entryWrong(due);
-        messagesWrong(due);
         due.end();
-    }
-
-    private static MulticastTrees line(int meet, int... routers) {
-        MulticastTrees x = new MulticastTrees(meet);
-        for (int k = 1; k < routers.length; k++) x.link(routers[k - 1], routers[k], 1);
-        return x;
     }
 
     private static void latest(Due due, String what, MulticastTrees x, int crossings, int drops, int reached) {
@@ -39,7 +32,7 @@ public final class PacketsTest {
     }
 
     private static void registersAndStops(Due due) {
-        MulticastTrees x = line(0, 0, 1);
+        MulticastTrees x = Nets.line(0, 0, 1);
         due.is("nobody hears", x.send(1, 0), 0);
         latest(due, "no member", x, 0, 0, 0);
         due.is("a register", x.messages(6), 1);
@@ -92,7 +85,7 @@ public final class PacketsTest {
     }
 
     private static void fiveStreams(Due due) {
-        MulticastTrees x = line(0, 0, 1);
+        MulticastTrees x = Nets.line(0, 0, 1);
         x.join(0, 0, 0);
         x.send(0, 1);
         x.send(0, 2);
@@ -113,20 +106,8 @@ public final class PacketsTest {
         due.is("and no more", x.send(2, 2), -1);
     }
 
-    private static void sendWrong(Due due) {
-        MulticastTrees x = new MulticastTrees(0);
-        x.join(0, 0, 0);
-        x.send(0, 0);
-        for (int wrong : new int[] {-1, 6, Integer.MIN_VALUE, Integer.MAX_VALUE}) {
-            due.is("send of " + wrong, x.send(wrong, 0), -1);
-            due.is("send to " + wrong, x.send(0, wrong), -1);
-        }
-        due.is("send to 3", x.send(0, 3), -1);
-        due.is("the latest stays", x.reached(), 1);
-    }
-
     private static void sharedThenSource(Due due) {
-        MulticastTrees x = line(1, 0, 1, 2);
+        MulticastTrees x = Nets.line(1, 0, 1, 2);
         x.join(2, 0, 0);
         due.is("by the meeting point", x.send(0, 0), 1);
         latest(due, "first", x, 1, 0, 4);
@@ -151,7 +132,7 @@ public final class PacketsTest {
     }
 
     private static void keepaliveOfCarriers(Due due) {
-        MulticastTrees x = line(0, 3, 0, 1, 2);
+        MulticastTrees x = Nets.line(0, 3, 0, 1, 2);
         x.join(2, 0, 0);
         due.is("heard on LAN 2", x.send(3, 0), 1);
         latest(due, "by 0, 1, 2", x, 2, 0, 4);
@@ -163,7 +144,7 @@ public final class PacketsTest {
     }
 
     private static void ownLan(Due due) {
-        MulticastTrees x = line(1, 0, 1, 2);
+        MulticastTrees x = Nets.line(1, 0, 1, 2);
         x.join(0, 0, 0);
         x.join(2, 0, 0);
         due.is("both LANs", x.send(0, 0), 2);
@@ -178,7 +159,7 @@ public final class PacketsTest {
     }
 
     private static void sourceIsMeetingPoint(Due due) {
-        MulticastTrees x = line(0, 0, 1, 2);
+        MulticastTrees x = Nets.line(0, 0, 1, 2);
         x.join(2, 0, 0);
         due.is("down the shared tree", x.send(0, 0), 1);
         latest(due, "down", x, 2, 0, 4);
@@ -207,7 +188,7 @@ public final class PacketsTest {
 
     /** A square 0-1-2-3 with the meeting point 0: router 2 hears the source 3 nearer than the meeting point. */
     private static void cutsAside(Due due) {
-        MulticastTrees x = line(0, 0, 1, 2, 3, 0);
+        MulticastTrees x = Nets.line(0, 0, 1, 2, 3, 0);
         x.join(2, 0, 0);
         due.is("the lower way to R", x.shared(2, 0), 1);
         x.send(3, 0);
@@ -231,7 +212,7 @@ public final class PacketsTest {
     }
 
     private static void cutsOfEmptyLists(Due due) {
-        MulticastTrees x = line(0, 0, 1, 2, 3, 0);
+        MulticastTrees x = Nets.line(0, 0, 1, 2, 3, 0);
         x.join(2, 0, 0);
         x.join(1, 0, 0);
         x.send(3, 0);
@@ -246,7 +227,7 @@ public final class PacketsTest {
     }
 
     private static void cutWhereSourceIsGone(Due due) {
-        MulticastTrees x = line(0, 0, 1, 2);
+        MulticastTrees x = Nets.line(0, 0, 1, 2);
         x.join(1, 0, 0);
         x.send(2, 0);
         x.send(2, 0);
@@ -259,7 +240,7 @@ public final class PacketsTest {
     }
 
     private static void dropsAtTheSource(Due due) {
-        MulticastTrees x = line(0, 0, 1, 2);
+        MulticastTrees x = Nets.line(0, 0, 1, 2);
         x.join(2, 0, 0);
         due.is("1 sends", x.send(1, 0), 1);
         latest(due, "1 to 2, and R back to 1", x, 2, 1, 4);
@@ -267,7 +248,7 @@ public final class PacketsTest {
     }
 
     private static void cutEndsWithItsReason(Due due) {
-        MulticastTrees x = line(0, 0, 1, 2, 3, 0);
+        MulticastTrees x = Nets.line(0, 0, 1, 2, 3, 0);
         x.join(1, 0, 0);
         x.join(2, 0, 0);
         x.send(2, 0);
@@ -280,7 +261,7 @@ public final class PacketsTest {
     }
 
     private static void sourceIsCut(Due due) {
-        MulticastTrees x = line(1, 0, 1, 2);
+        MulticastTrees x = Nets.line(1, 0, 1, 2);
         x.join(0, 0, 0);
         x.join(2, 0, 0);
         x.send(0, 0);
@@ -291,7 +272,7 @@ public final class PacketsTest {
 
     /** At the second packet R took it from 1, which is switched by then, but still in the list of R. */
     private static void notBackWhereItCameFrom(Due due) {
-        MulticastTrees x = line(2, 0, 1, 2);
+        MulticastTrees x = Nets.line(2, 0, 1, 2);
         x.join(1, 0, 0);
         x.send(0, 0);
         latest(due, "R to 1", x, 1, 0, 2);
@@ -306,7 +287,7 @@ public final class PacketsTest {
     }
 
     private static void losses(Due due) {
-        MulticastTrees x = line(0, 0, 1, 2);
+        MulticastTrees x = Nets.line(0, 0, 1, 2);
         x.join(1, 0, 0);
         x.join(2, 0, 0);
         due.yes("two at 2", x.lose(2, 2));
@@ -330,40 +311,5 @@ public final class PacketsTest {
         x.lose(2, 9);
         for (int k = 0; k < 9; k++) due.is("loss " + k, x.send(0, 0), 2);
         due.is("after nine", x.send(0, 0), 3);
-    }
-
-    private static void loseWrong(Due due) {
-        MulticastTrees x = new MulticastTrees(0);
-        x.join(0, 0, 0);
-        for (int wrong : new int[] {-1, 6, Integer.MIN_VALUE, Integer.MAX_VALUE}) {
-            due.no("lose of LAN " + wrong, x.lose(wrong, 1));
-        }
-        for (int wrong : new int[] {-1, 10, Integer.MIN_VALUE, Integer.MAX_VALUE}) {
-            due.no("lose of " + wrong, x.lose(0, wrong));
-        }
-        due.is("no loss", x.send(0, 0), 1);
-        due.yes("lose 1", x.lose(0, 1));
-        due.yes("lose 1 again", x.lose(0, 1));
-        due.yes("the last LAN", x.lose(5, 9));
-        due.is("a loss", x.send(0, 0), 0);
-        due.is("one alone", x.send(0, 0), 1);
-    }
-
-    private static void entryWrong(Due due) {
-        MulticastTrees x = new MulticastTrees(0);
-        for (int wrong : new int[] {-1, 6, Integer.MIN_VALUE, Integer.MAX_VALUE}) {
-            due.is("entry of " + wrong, x.entry(wrong, 0, 0), -1);
-            due.is("entry for source " + wrong, x.entry(0, wrong, 0), -1);
-            due.is("entry for group " + wrong, x.entry(0, 0, wrong), -1);
-        }
-        due.is("entry for group 3", x.entry(0, 0, 3), -1);
-        due.is("the last", x.entry(5, 5, 2), 0);
-    }
-
-    private static void messagesWrong(Due due) {
-        MulticastTrees x = new MulticastTrees(0);
-        for (int wrong : new int[] {-1, 10, Integer.MIN_VALUE, Integer.MAX_VALUE}) {
-            due.is("messages " + wrong, x.messages(wrong), -1);
-        }
     }
 }
